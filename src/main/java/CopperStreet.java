@@ -51,11 +51,11 @@ public final class CopperStreet {
     private static final int POT_IS_SMOOTH = 6;
     private static final int POT_IS_CRACKED = 7;
 
-    private final Shop shop = new Shop();
+    private final Smith smith = new Smith();
+    private final Shop shop = smith.shop;
+    private final Reasons reasons = smith.reasons;
     private final Shop saved = new Shop();
     private final History history = new History();
-    private final Reasons reasons = new Reasons();
-    private final Smith smith = new Smith(shop, reasons);
     private final Chimes chimes = new Chimes();
     private final Script script = new Script();
     private final StringBuilder line = new StringBuilder();
@@ -954,15 +954,10 @@ public final class CopperStreet {
         }
     }
 
-    /** Changes the shop, or refuses to and tells the reasons. */
+    /** Changes its shop, or refuses to and tells the reasons. */
     private static final class Smith {
-        private final Shop shop;
-        private final Reasons reasons;
-
-        Smith(Shop shop, Reasons reasons) {
-            this.shop = shop;
-            this.reasons = reasons;
-        }
+        final Shop shop = new Shop();
+        final Reasons reasons = new Reasons();
 
         int buySheet(int gauge, int area) {
             if (gauge < 1 || gauge > MOST_GAUGE || area < LEAST_AREA || area > MOST_AREA) {

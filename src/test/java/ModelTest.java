@@ -174,6 +174,24 @@ public final class ModelTest {
             due("clear()", model.clear(), street.clear());
         }
         watch();
+        lookRound();
+    }
+
+    /** Looks at all numbers of a pot, a sheet and an order. */
+    private void lookRound() {
+        int pot = somePot();
+        for (int what = 0; what < 10; what++) {
+            due("potOf(" + pot + ", " + what + ")", model.potOf(pot, what), street.potOf(pot, what));
+        }
+        due("mealsTo(" + pot + ")", model.mealsTo(pot), street.mealsTo(pot));
+        int sheet = some(model.world.sheets.size());
+        for (int what = 0; what < 4; what++) {
+            due("sheetOf(" + sheet + ", " + what + ")", model.sheetOf(sheet, what), street.sheetOf(sheet, what));
+        }
+        int order = someOrder();
+        for (int what = 0; what < 5; what++) {
+            due("orderOf(" + order + ", " + what + ")", model.orderOf(order, what), street.orderOf(order, what));
+        }
     }
 
     private void text() {

@@ -8,9 +8,11 @@ public final class UndoTest {
         promise42UndoLimit();
         promise42UndoAndOtherCalls();
         promise42UndoThenChange();
+        promise42UndoBringsBackEverything();
         promise43And44SaveAndRestore();
         promise43And44Edges();
         promise44RestoreKeepsWhatIsNoChange();
+        promise44RestoreBringsBackEverything();
         CHECK.end();
     }
 
@@ -207,5 +209,115 @@ public final class UndoTest {
         CHECK.due("reason(0, false)", 9, x.reason(0, false));
         CHECK.due("line", "pan1:3", Check.line(x));
         CHECK.due("potOf(1, 3)", 0, x.potOf(1, 3));
+    }
+
+    /** All numbers that changes can change. */
+    private static String tellAll(CopperStreet x) {
+        StringBuilder told = new StringBuilder();
+        for (int what = 0; what < 14; what++) {
+            told.append(x.account(what)).append(' ');
+        }
+        for (int sheet = 0; x.sheetOf(sheet, 0) >= 0; sheet++) {
+            for (int what = 0; what < 4; what++) {
+                told.append(what == 0 ? "sheet " : "").append(x.sheetOf(sheet, what)).append(' ');
+            }
+        }
+        for (int pot = 0; x.potOf(pot, 0) >= 0; pot++) {
+            for (int what = 0; what < 10; what++) {
+                told.append(what == 0 ? "pot " : "").append(x.potOf(pot, what)).append(' ');
+            }
+            told.append(x.mealsTo(pot)).append(' ');
+        }
+        for (int order = 0; x.orderOf(order, 0) >= 0; order++) {
+            for (int what = 0; what < 5; what++) {
+                told.append(what == 0 ? "order " : "").append(x.orderOf(order, what)).append(' ');
+            }
+        }
+        return told.append(x.coinsAgain()).append(' ').append(x.barsAgain()).toString();
+    }
+
+    /** Pots, sheets and orders of all kinds, at numbers where an earlier street had quite other ones. */
+    private static CopperStreet busyStreet() {
+        CopperStreet x = new CopperStreet();
+        makeOtherStreet(x);
+        x.clear();
+        x.sheet(4, 50);
+        x.sheet(7, 60);
+        x.raise(1, 2);
+        x.raise(0, 1);
+        x.raise(1, 1);
+        x.planish(1, 22);
+        x.tin(1, 3);
+        x.cook(1, 1);
+        x.planish(0, 41);
+        x.tin(0, 1);
+        x.cook(0, 5);
+        x.planish(2, 16);
+        x.tin(2, 3);
+        x.bars(3);
+        x.baker(2, 5, 77);
+        x.baker(1, 2, 31);
+        x.baker(1, 3, 12);
+        x.sell(1, 1);
+        return x;
+    }
+
+    private static void makeOtherStreet(CopperStreet x) {
+        x.sheet(1, 59);
+        x.sheet(3, 31);
+        x.sheet(2, 33);
+        x.raise(0, 0);
+        x.raise(2, 0);
+        x.raise(0, 2);
+        x.raise(1, 2);
+        x.planish(0, 25);
+        x.planish(1, 27);
+        x.planish(2, 45);
+        x.tin(0, 4);
+        x.cook(0, 3);
+        x.tin(1, 2);
+        x.cook(1, 2);
+        x.baker(0, 1, 8);
+        x.baker(0, 2, 6);
+        x.baker(2, 7, 5);
+        x.baker(2, 8, 4);
+        x.sell(1, 0);
+        x.bars(2);
+    }
+
+    private static int change(CopperStreet x, int number) {
+        switch (number) {
+            case 0: return x.sheet(2, 20);
+            case 1: return x.raise(0, 2);
+            case 2: return x.planish(0, 7);
+            case 3: return x.bars(2);
+            case 4: return x.tin(2, 1);
+            case 5: return x.cook(2, 3);
+            case 6: return x.baker(0, 9, 3);
+            case 7: return x.sell(2, 2);
+            default: return Check.read(x, "raise 0 0;hit 3 30;tin 2 1;cook 2 3;sell 2 2;bars 1");
+        }
+    }
+
+    private static void promise42UndoBringsBackEverything() {
+        for (int number = 0; number < 9; number++) {
+            CopperStreet x = busyStreet();
+            String before = tellAll(x);
+            CHECK.due("change " + number + " is made", true, change(x, number) >= 0);
+            CHECK.due("change " + number + " is told", false, before.equals(tellAll(x)));
+            CHECK.due("undo() of change " + number, 7, x.undo());
+            CHECK.due("all numbers after change " + number, before, tellAll(x));
+        }
+    }
+
+    private static void promise44RestoreBringsBackEverything() {
+        CopperStreet x = busyStreet();
+        String before = tellAll(x);
+        x.save();
+        x.clear();
+        makeOtherStreet(x);
+        CHECK.due("another street is told", false, before.equals(tellAll(x)));
+        x.restore();
+        CHECK.due("all numbers after restore", before, tellAll(x));
     }
 }
