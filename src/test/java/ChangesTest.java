@@ -9,6 +9,7 @@ public final class ChangesTest {
     public static void main(String[] args) {
         promise1NewObject();
         promise2ClearStartsAnew();
+        promise2ClearForgetsHalfWornTin();
         promise2ClearKeepsWhatIsNoChange();
         promise3Append();
         promise4Sheet();
@@ -100,6 +101,22 @@ public final class ChangesTest {
         CHECK.due("orderOf(0, 4)", 0, x.orderOf(0, 4));
         CHECK.due("clear() again", 2, x.clear());
         CHECK.due("clear() once more", 0, x.clear());
+    }
+
+    private static void promise2ClearForgetsHalfWornTin() {
+        CopperStreet x = Check.streetWithPots(3);
+        x.planish(0, 24);
+        x.tin(0, 2);
+        x.cook(0, 3);
+        x.clear();
+        x.sheet(3, 40);
+        x.raise(0, 0);
+        x.planish(0, 24);
+        x.tin(0, 2);
+        CHECK.due("mealsTo(0)", 8, x.mealsTo(0));
+        CHECK.due("cook(0, 3)", 2, x.cook(0, 3));
+        CHECK.due("cook(0, 1)", 1, x.cook(0, 1));
+        CHECK.due("mealsTo(0)", 4, x.mealsTo(0));
     }
 
     private static void promise2ClearKeepsWhatIsNoChange() {

@@ -125,7 +125,10 @@ public final class ModelTest {
     private void use() {
         int pot = somePot();
         int number;
-        switch (random.nextInt(6)) {
+        switch (random.nextInt(7)) {
+            case 6:
+                finish(pot);
+                break;
             case 0:
             case 1:
                 number = someBlows(pot);
@@ -149,6 +152,25 @@ public final class ModelTest {
                 break;
         }
         watch();
+    }
+
+    /** Makes a pot good, has it ordered, and sells it now and then: by chance alone this is rare. */
+    private void finish(int pot) {
+        int blows = model.blowsTo(pot, 0);
+        due("planish(" + pot + ", " + blows + ")", model.change("hit", pot, blows, 0), street.planish(pot, blows));
+        int coats = 1 + random.nextInt(4);
+        due("tin(" + pot + ", " + coats + ")", model.change("tin", pot, coats, 0), street.tin(pot, coats));
+        int kind = Math.max(model.potOf(pot, 0), 0);
+        int tin = 1 + random.nextInt(4);
+        int pay = from(1, 99);
+        due("baker(" + kind + ", " + tin + ", " + pay + ")", model.change("baker", kind, tin, pay), street.baker(kind, tin, pay));
+        if (random.nextInt(3) == 0) {
+            int order = someOrder();
+            int good = random.nextBoolean() ? pot : model.goodFor(order);
+            due("sell(" + good + ", " + order + ")", model.change("sell", good, order, 0), street.sell(good, order));
+        }
+        due("filled()", model.filled(), street.filled());
+        due("worth()", model.worth(), street.worth());
     }
 
     /** Looks after what a call leaves behind most often. */

@@ -114,6 +114,16 @@ public final class OrdersTest {
         x.planish(2, 6);
         CHECK.due("filled() with a cracked pot", 0, x.filled());
         CHECK.due("filled() without pots", 0, new CopperStreet().filled());
+        CopperStreet y = streetOfGoodPans();
+        y.baker(1, 1, 10);
+        y.baker(1, 1, 10);
+        y.sell(1, 0);
+        CHECK.due("filled() with one order filled", 1, y.filled());
+        CHECK.due("worth() with one order filled", 10, y.worth());
+        y.sell(0, 1);
+        CHECK.due("filled() with all orders filled and a good pot left", 0, y.filled());
+        CHECK.due("worth() with all orders filled and a good pot left", 0, y.worth());
+        CHECK.due("goodFor(0)", 2, y.goodFor(0));
     }
 
     private static void promise31FilledByAnotherWayThanInTurn() {
