@@ -12,6 +12,7 @@ public final class OrdersTest {
         promise31FilledByAnotherWayThanInTurn();
         promise32Worth();
         promise40SoldShare();
+        aFullStreet();
         CHECK.end();
     }
 
@@ -185,5 +186,45 @@ public final class OrdersTest {
         CHECK.due("soldShare()", 2.0 / 3.0, x.soldShare());
         x.sell(1, 2);
         CHECK.due("soldShare()", 1.0, x.soldShare());
+    }
+
+    /** As many sheets, pots and orders as there can be: questions about all of them. */
+    private static void aFullStreet() {
+        CopperStreet x = new CopperStreet();
+        for (int sheet = 0; sheet < 12; sheet++) {
+            x.sheet(1, sheet < 3 ? 60 : 10);
+        }
+        for (int pot = 0; pot < 16; pot++) {
+            x.raise(pot / 7, 1);
+        }
+        x.bars(18);
+        for (int pot = 0; pot < 6; pot++) {
+            x.planish(pot, 16);
+            x.tin(pot, 3);
+        }
+        for (int order = 0; order < 8; order++) {
+            x.baker(1, 1, 10 + order);
+        }
+        CHECK.due("filled()", 6, x.filled());
+        CHECK.due("worth()", 75, x.worth());
+        CHECK.due("goodFor(7)", 0, x.goodFor(7));
+        CHECK.due("alike()", 15 + 45, x.alike());
+        CHECK.due("ranked(0)", 6, x.ranked(0));
+        CHECK.due("ranked(15)", 5, x.ranked(15));
+        CHECK.due("ranked(16)", NONE, x.ranked(16));
+        CHECK.due("peal(3)", 1, x.peal(3));
+        CHECK.due("peal(4)", 2, x.peal(4));
+        CHECK.due("nearest(120)", 6, x.nearest(120));
+        CHECK.due("meanSound()", 52.5, x.meanSound());
+        CHECK.due("copper()", 270, x.copper());
+        CHECK.due("copperAgain()", 270, x.copperAgain());
+        CHECK.due("save()", 16, x.save());
+        CHECK.due("sell(5, 7)", 17, x.sell(5, 7));
+        CHECK.due("soldShare()", 1.0 / 16.0, x.soldShare());
+        CHECK.due("filled() after a sale", 5, x.filled());
+        CHECK.due("undo()", 7, x.undo());
+        CHECK.due("filled() after undo", 6, x.filled());
+        CHECK.due("restore()", 16, x.restore());
+        CHECK.due("clear()", 16, x.clear());
     }
 }
