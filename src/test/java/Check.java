@@ -36,6 +36,16 @@ final class Check {
         }
     }
 
+    /** Compares both numbers of a reason. */
+    void reasonDue(CopperStreet street, int depth, int reason, int detail) {
+        due("reason(" + depth + ", false)", reason, street.reason(depth, false));
+        due("reason(" + depth + ", true)", detail, street.reason(depth, true));
+    }
+
+    int compared() {
+        return compared;
+    }
+
     int wrong() {
         return wrong;
     }
