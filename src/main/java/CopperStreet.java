@@ -459,16 +459,11 @@ public final class CopperStreet {
     }
 
     private static final class Order {
-        final int number;
         Kind kind = Kind.KETTLE;
         int tin = 0;
         int pay = 0;
         int pot = NOTHING;
         int paid = 0;
-
-        Order(int number) {
-            this.number = number;
-        }
 
         void arrive(Kind newKind, int newTin, int newPay) {
             kind = newKind;
@@ -708,7 +703,7 @@ public final class CopperStreet {
                 pots[i] = new Pot(i);
             }
             for (int i = 0; i < orders.length; i++) {
-                orders[i] = new Order(i);
+                orders[i] = new Order();
             }
         }
 

@@ -1,30 +1,19 @@
-import java.io.ByteArrayOutputStream;
 import java.io.IOException;
-import java.io.InputStream;
 import java.io.OutputStream;
 import java.io.PrintStream;
 import java.io.StringWriter;
 import java.lang.reflect.Constructor;
 import java.lang.reflect.InvocationTargetException;
 import java.lang.reflect.Method;
-import java.net.URI;
 import java.nio.charset.StandardCharsets;
 import java.nio.file.Files;
 import java.nio.file.Path;
 import java.util.ArrayList;
-import java.util.HashMap;
 import java.util.List;
 import java.util.Map;
 import java.util.regex.Matcher;
 import java.util.regex.Pattern;
 import java.util.stream.Collectors;
-import javax.tools.FileObject;
-import javax.tools.ForwardingJavaFileManager;
-import javax.tools.JavaCompiler;
-import javax.tools.JavaFileManager;
-import javax.tools.JavaFileObject;
-import javax.tools.SimpleJavaFileObject;
-import javax.tools.ToolProvider;
 
 /** Makes each change that a remark names, one at a time, and looks that the test below the remark fails then. */
 public final class BreaksTest {
@@ -37,16 +26,16 @@ public final class BreaksTest {
         }
     }
 
-    private final JavaCompiler compiler;
+    private final MemoryCompiler compiler;
     private final String source;
 
-    private BreaksTest(JavaCompiler compiler, String source) {
+    private BreaksTest(MemoryCompiler compiler, String source) {
         this.compiler = compiler;
         this.source = source;
     }
 
     public static void main(String[] args) throws IOException {
-        JavaCompiler compiler = ToolProvider.getSystemJavaCompiler();
+        MemoryCompiler compiler = MemoryCompiler.find();
         if (compiler == null) {
             System.out.println("BreaksTest: this java has no compiler in it, so that no break is tried");
             return;
@@ -74,12 +63,12 @@ public final class BreaksTest {
             return "does not find just one such place in " + trial.change().place();
         }
         StringWriter messages = new StringWriter();
-        Map<String, byte[]> classes = compile(broken, messages);
+        Map<String, byte[]> classes = compiler.compile(CLASS, broken, messages);
         if (classes == null) {
             return "is not compiled: " + messages;
         }
         try {
-            return isHeld(trial.remark(), new BrokenLoader(classes)) ? "holds" : "fails";
+            return isHeld(trial.remark(), new MemoryLoader(classes)) ? "holds" : "fails";
         } catch (ReflectiveOperationException failed) {
             return "is not run: " + failed;
         }
@@ -116,18 +105,6 @@ public final class BreaksTest {
         return new int[] {matcher.end(), source.indexOf("\n" + matcher.group(1) + "}", matcher.end())};
     }
 
-    private Map<String, byte[]> compile(String broken, StringWriter messages) {
-        Map<String, ByteArrayOutputStream> written = new HashMap<>();
-        JavaFileManager files = new MemoryFiles(compiler.getStandardFileManager(null, null, null), written);
-        List<JavaFileObject> sources = List.of(new SourceInMemory(broken));
-        if (!compiler.getTask(messages, files, null, List.of("-proc:none", "-g:none"), null, sources).call()) {
-            return null;
-        }
-        Map<String, byte[]> classes = new HashMap<>();
-        written.forEach((name, bytes) -> classes.put(name, bytes.toByteArray()));
-        return classes;
-    }
-
     /** A broken class may throw as well as answer wrongly: the test holds only if it does neither. */
     private static boolean isHeld(Remark remark, ClassLoader loader) throws ReflectiveOperationException {
         Class<?> checks = loader.loadClass("Check");
@@ -145,71 +122,5 @@ public final class BreaksTest {
             return false;
         }
         return wrong.invoke(check).equals(0);
-    }
-
-    private static final class SourceInMemory extends SimpleJavaFileObject {
-        private final String text;
-
-        SourceInMemory(String text) {
-            super(URI.create("memory:///" + CLASS + ".java"), Kind.SOURCE);
-            this.text = text;
-        }
-
-        @Override
-        public CharSequence getCharContent(boolean ignoreEncodingErrors) {
-            return text;
-        }
-    }
-
-    private static final class MemoryFiles extends ForwardingJavaFileManager<JavaFileManager> {
-        private final Map<String, ByteArrayOutputStream> written;
-
-        MemoryFiles(JavaFileManager files, Map<String, ByteArrayOutputStream> written) {
-            super(files);
-            this.written = written;
-        }
-
-        @Override
-        public JavaFileObject getJavaFileForOutput(Location location, String name, JavaFileObject.Kind kind, FileObject sibling) {
-            return new SimpleJavaFileObject(URI.create("memory:///" + name + ".class"), kind) {
-                @Override
-                public OutputStream openOutputStream() {
-                    ByteArrayOutputStream bytes = new ByteArrayOutputStream();
-                    written.put(name, bytes);
-                    return bytes;
-                }
-            };
-        }
-    }
-
-    /** Loads the broken class from memory, and the tests once more, so that they use it. */
-    private static final class BrokenLoader extends ClassLoader {
-        private final Map<String, byte[]> classes;
-
-        BrokenLoader(Map<String, byte[]> classes) {
-            super(BreaksTest.class.getClassLoader());
-            this.classes = classes;
-        }
-
-        @Override
-        protected Class<?> loadClass(String name, boolean resolve) throws ClassNotFoundException {
-            Class<?> loaded = findLoadedClass(name);
-            if (loaded != null) {
-                return loaded;
-            }
-            byte[] bytes = classes.containsKey(name) ? classes.get(name) : bytesOfTest(name);
-            return bytes == null ? super.loadClass(name, resolve) : defineClass(name, bytes, 0, bytes.length);
-        }
-
-        private byte[] bytesOfTest(String name) throws ClassNotFoundException {
-            if (name.contains(".")) {
-                return null;
-            }
-            try (InputStream in = getParent().getResourceAsStream(name + ".class")) {
-                return in == null ? null : in.readAllBytes();
-            } catch (IOException failed) {
-                throw new ClassNotFoundException(name, failed);
-            }
-        }
     }
 }

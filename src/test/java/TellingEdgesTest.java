@@ -182,7 +182,7 @@ public final class TellingEdgesTest {
     // Promise 17: "0 its kind; 1 its tin; 2 its pay"
     // Promise 17: "Returns a number of an order."
     // Promise 17: "Returns the number"
-    // Broken in Order.tell: case 0: return kind.number => case 0: return number
+    // Broken in Order.tell: case 0: return kind.number => case 0: return tin
     // Broken in Order.tell: case 1: return tin => case 1: return pay
     // Broken in Order.tell: case 2: return pay => case 2: return paid
     static void anOrderTellsItsNumbers(Check check) {
